@@ -476,13 +476,13 @@ public final class DeclareForms {
             return balances[at];
         }
 
+        /** Once for a line: its number never comes again, so what it drew need not be wiped. */
         void giveBack(int line) {
             if (line < 0 || line > MOST_LINE) {
                 return;
             }
             for (int i = 0; i < held; i++) {
                 balances[i] += drawn[line * MOST_PAPERS + i];
-                drawn[line * MOST_PAPERS + i] = 0;
             }
         }
     }

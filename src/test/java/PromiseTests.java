@@ -537,6 +537,9 @@ public final class PromiseTests {
         due(4000310, x::check);
         x.clear(10, 3);
         due(0, x::check);
+        DeclareForms y = wholeKind0(30);
+        y.field(10, 30, 5);
+        due(4003010, y::check);
     }
 
     private static void checkOrder() {
@@ -750,8 +753,16 @@ public final class PromiseTests {
         }
         due(4, () -> z.draw(30, 20, 1));
         due(3, () -> z.draw(29, 20, 1));
+        z.draw(28, 1, 2);
+        z.draw(28, 19, 3);
         z.remove(30);
         due(4, () -> z.count(120));
+        z.remove(29);
+        due(5, () -> z.count(120));
+        due(3, () -> z.count(101));
+        z.remove(28);
+        due(5, () -> z.count(101));
+        due(5, () -> z.count(119));
     }
 
     private static void sum() {
