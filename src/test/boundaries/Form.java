@@ -111,6 +111,10 @@ final class Form {
         if (thrown == IllegalStateException.class) {
             return STATE;
         }
-        return thrown == IndexOutOfBoundsException.class ? BOUNDS : UNDUE;
+        if (thrown == IndexOutOfBoundsException.class) {
+            return BOUNDS;
+        }
+        Trial.fail("threw " + thrown.getName() + ", which no call may");
+        return UNDUE;
     }
 }

@@ -70,11 +70,11 @@ final class PaperSentences {
             Trial.due(4, x.draw(1, number, 1));
             Trial.due(2, x.draw(2, number, 2));
         }
-        x.remove(1);
+        Trial.due(0, x.remove(1));
         for (int number = 1; number <= 20; number++) {
             Trial.due(3, x.count(100 + number));
         }
-        x.remove(2);
+        Trial.due(0, x.remove(2));
         for (int number = 1; number <= 20; number++) {
             Trial.due(5, x.count(100 + number));
         }
